@@ -50,6 +50,10 @@ public final class TwoTowns {
     private static final int LARGEST_MODEL = 3;
     private static final int MODELS_OF_THREE = 64;
     private static final int MODELS_OF_FEWER = 11;
+    // Among those of fewer than three, as bits: the empty one first, then two of one, then eight of two.
+    private static final int MODEL_OF_NOBODY = 1;
+    private static final int MODELS_OF_ONE = 6;
+    private static final int MODELS_OF_TWO = 2040;
     private static final int ALL_OF_FEWER = 2047;
     private static final int MOST_REPORTS = 4;
 
@@ -625,33 +629,24 @@ public final class TwoTowns {
             }
         }
 
+        /** The number of the reserved word that the token is. */
         private int reservedWord() {
             int found = 0;
-            int from = 0;
-            while (from < RESERVED.length()) {
-                int to = from;
-                while (to < RESERVED.length() && RESERVED.charAt(to) != ' ') {
-                    to++;
+            int matched = 0;
+            for (int i = 0; i < RESERVED.length(); i++) {
+                char sign = RESERVED.charAt(i);
+                if (sign == ' ') {
+                    if (matched == end - place) {
+                        return found;
+                    }
+                    found++;
+                    matched = 0;
+                } else if (matched != NONE) {
+                    boolean same = place + matched < end && signs[place + matched] == sign;
+                    matched = same ? matched + 1 : NONE;
                 }
-                if (reads(from, to)) {
-                    return found;
-                }
-                found++;
-                from = to + 1;
             }
             return NONE;
-        }
-
-        private boolean reads(int from, int to) {
-            if (to - from != end - place) {
-                return false;
-            }
-            for (int i = from; i < to; i++) {
-                if (RESERVED.charAt(i) != signs[place + i - from]) {
-                    return false;
-                }
-            }
-            return true;
         }
 
         boolean repeats(int from, int to) {
@@ -875,26 +870,23 @@ public final class TwoTowns {
         }
 
         private boolean readAtom(Tape tape, Claim into, int index, int bound) {
-            if (!readBound(tape, bound)) {
-                return false;
+            int names = into.verb[index] < NEAR ? 1 : 2;
+            for (int i = 0; i < names; i++) {
+                tape.next();
+                if (tape.word < X) {
+                    return tape.wrong(MISPLACED);
+                }
+                int name = tape.word - X;
+                if ((bound >> name & 1) == 0) {
+                    return tape.wrong(UNKNOWN);
+                }
+                if (i == 0) {
+                    into.one[index] = name;
+                } else {
+                    into.other[index] = name;
+                }
             }
-            into.one[index] = tape.word - X;
-            if (into.verb[index] < NEAR) {
-                return true;
-            }
-            if (!readBound(tape, bound)) {
-                return false;
-            }
-            into.other[index] = tape.word - X;
             return true;
-        }
-
-        private boolean readBound(Tape tape, int bound) {
-            tape.next();
-            if (tape.word < X) {
-                return tape.wrong(MISPLACED);
-            }
-            return (bound >> tape.word - X & 1) == 1 || tape.wrong(UNKNOWN);
         }
     }
 
@@ -1306,29 +1298,31 @@ public final class TwoTowns {
         }
 
         int fewestLost() {
-            if ((lostOfFewer & 1) != 0) {
-                return 0;
+            for (int many = 0; many <= LARGEST_MODEL; many++) {
+                if (isLostOf(many)) {
+                    return many;
+                }
             }
-            if ((lostOfFewer & 6) != 0) {
-                return 1;
-            }
-            if (lostOfFewer != 0) {
-                return 2;
-            }
-            return lostOfThree != 0 ? LARGEST_MODEL : NONE;
+            return NONE;
         }
 
         int mostLost() {
-            if (lostOfThree != 0) {
-                return LARGEST_MODEL;
+            for (int many = LARGEST_MODEL; many >= 0; many--) {
+                if (isLostOf(many)) {
+                    return many;
+                }
             }
-            if (lostOfFewer > 6) {
-                return 2;
+            return NONE;
+        }
+
+        /** Whether the lost town may be one of so many folk. */
+        private boolean isLostOf(int many) {
+            switch (many) {
+                case 0: return (lostOfFewer & MODEL_OF_NOBODY) != 0;
+                case 1: return (lostOfFewer & MODELS_OF_ONE) != 0;
+                case 2: return (lostOfFewer & MODELS_OF_TWO) != 0;
+                default: return lostOfThree != 0;
             }
-            if (lostOfFewer > 1) {
-                return 1;
-            }
-            return lostOfFewer == 1 ? 0 : NONE;
         }
     }
 
@@ -1387,8 +1381,9 @@ public final class TwoTowns {
         }
 
         boolean isFree(int town, int who) {
+            int many = town == 0 ? first.folk : second.folk;
             int used = town == 0 ? taken[0] : taken[1];
-            return who >= 0 && who < folkOf(town) && (used >> who & 1) == 0;
+            return who >= 0 && who < many && (used >> who & 1) == 0;
         }
 
         int freeMany(int town) {
@@ -1410,20 +1405,17 @@ public final class TwoTowns {
 
         /** Whether a new pair is to all others as it must be. */
         boolean fits(int one, int with) {
-            if ((first.bakers >> one & 1) != (second.bakers >> with & 1)
+            if (one < 0 || one >= MOST_FOLK || with < 0 || with >= MOST_FOLK
+                    || (first.bakers >> one & 1) != (second.bakers >> with & 1)
                     || (first.widows >> one & 1) != (second.widows >> with & 1)) {
                 return false;
             }
-            int near = first.nearTo(one);
-            int withNear = second.nearTo(with);
-            int owed = first.owedBy(one);
-            int withOwed = second.owedBy(with);
             for (int other = 0; other < MOST_FOLK; other++) {
                 int partnered = partner[other];
-                if (partnered >= 0
-                        && ((near >> other & 1) != (withNear >> partnered & 1)
-                        || (owed >> other & 1) != (withOwed >> partnered & 1)
-                        || (first.owedBy(other) >> one & 1) != (second.owedBy(partnered) >> with & 1))) {
+                if (partnered >= 0 && partnered < MOST_FOLK
+                        && ((first.near[one] >> other & 1) != (second.near[with] >> partnered & 1)
+                        || (first.owes[one] >> other & 1) != (second.owes[with] >> partnered & 1)
+                        || (first.owes[other] >> one & 1) != (second.owes[partnered] >> with & 1))) {
                     return false;
                 }
             }
@@ -1659,7 +1651,7 @@ public final class TwoTowns {
         /** All alike positions of so many pairs at most, by the first town's folk from one on. */
         private void gather(Board board, int one, int hands) {
             if (one >= board.first.folk || one >= MOST_FOLK) {
-                if (many < HAND_POSITIONS && board.code < POSITIONS) {
+                if (many < HAND_POSITIONS && board.code >= 0 && board.code < POSITIONS) {
                     positions[many] = board.code;
                     foundIn[board.code] = NEVER;
                     many++;
