@@ -83,7 +83,7 @@ public final class TwoTowns {
     private final Tape tape = new Tape();
     private final State now = new State();
     private final State draft = new State();
-    private final State[] marks = new State[MARKS];
+    private final State[] marks = {new State(), new State(), new State(), new State()};
     private final boolean[] laid = new boolean[MARKS];
     private final int[] done = new int[BACK_STEPS];
     private int doneMany = 0;
@@ -99,9 +99,6 @@ public final class TwoTowns {
     private final Town trial = new Town();
 
     public TwoTowns() {
-        for (int i = 0; i < MARKS; i++) {
-            marks[i] = new State();
-        }
     }
 
     // ---- what is told ----

@@ -19,6 +19,7 @@ public final class PromiseTests {
         newObject();
         feed();
         townsFaults();
+        oldSigns();
         townsReset();
         claimFaults();
         claimLimits();
@@ -40,6 +41,7 @@ public final class PromiseTests {
         mend();
         elders();
         farGroupsLonerMost();
+        farOff();
         measure();
         soAndParts();
         models();
@@ -236,6 +238,29 @@ public final class PromiseTests {
         faultAtLast(three + "near aa bb;near bb aa;", "aa", 3);
         fault(three + "owes aa bb;owes bb aa;near bb aa;", 0, 0);
         faultAtLast("baker aa;folk aa of 1;", "aa;", 2);
+    }
+
+    /** What was on the tape before is not read again. */
+    private static void oldSigns() {
+        promise = 3;
+        TwoTowns x = new TwoTowns();
+        feed(x, times("1", 24));
+        due("a long number", x.towns(), 1);
+        feed(x, "folk a of 1");
+        due("the end behind a number", x.towns(), 1 + 16 * 11);
+        feed(x, times("x", 24));
+        due("a long word", x.towns(), 1);
+        feed(x, "folk a");
+        due("the end behind a name", x.towns(), 1 + 16 * 6);
+        feed(x, times(" ", 11) + ";");
+        due("a sign behind blanks", x.towns(), 1 + 16 * 11);
+        feed(x, "folk a of 1");
+        due("the end again", x.towns(), 1 + 16 * 11);
+        promise = 4;
+        feed(x, "some x baker xx");
+        due("another word", x.claim(), 1 + 16 * 13);
+        feed(x, "some x baker x");
+        due("a claim", x.claim(), 0);
     }
 
     private static void townsReset() {
@@ -676,6 +701,9 @@ public final class PromiseTests {
         x = told(FOUR_EACH + "near a b;near b c;near c d;near d a;near e f;near f g;near g h;");
         due("a ring and a row", x.hands(2), -1);
         due("with three", x.hands(3), 3);
+        // A hand on h (back: c), one on f (back: a), the first one taken off and put on g: a owes nobody.
+        x = told(FOUR_EACH + "owes b c;owes c a;owes d a;owes e h;owes h f;owes f g;");
+        due("a hand is taken off again", x.hands(2), 3);
         x = told(FOUR_EACH + "baker a;baker b;baker e;");
         due("one baker or two, one hand", x.hands(1), -1);
         due("two hands", x.hands(2), 2);
@@ -829,6 +857,38 @@ public final class PromiseTests {
         due("no such town", x.most(-1), -1);
         due("nobody", new TwoTowns().most(0), -1);
         due("all alike", told(FOUR_EACH).most(1), 0);
+    }
+
+    /** Numbers far off, and such as a shift would take for small ones. */
+    private static void farOff() {
+        TwoTowns x = told(FOUR_EACH + "near a b;owes a c;baker a;widow a;");
+        for (int bad : new int[] {-1, 4, 31, 32, 33, 64, -32, Integer.MAX_VALUE, Integer.MIN_VALUE}) {
+            promise = 5;
+            due("folk", x.folk(0, bad, 2), -2);
+            promise = 6;
+            due("point", x.point(0, bad, 0), -1);
+            due("point back", x.point(0, 0, bad), -1);
+            promise = 7;
+            due("paint", x.paint(0, bad, 0), false);
+            promise = 8;
+            due("link", x.link(0, bad, 0, 0), false);
+            due("link", x.link(0, 0, bad, 1), false);
+            promise = 12;
+            due("reply", x.reply(0, bad), -1);
+            promise = 15;
+            due("keeps", x.keeps(0, bad, 1), -1);
+            promise = 20;
+            due("orbit", x.orbit(0, bad), -1);
+            promise = 23;
+            due("far", x.far(0, 0, bad), -1);
+            due("far", x.far(0, bad, 0), -1);
+            due("far", x.far(0, bad, bad), -1);
+            promise = 14;
+            due("sided", x.sided(bad), -1);
+            promise = 36;
+            due("mark", x.mark(bad, false), false);
+        }
+        due("nothing done", x.count(10), 0);
     }
 
     // ---- 27 to 33: the claim and the lost town ----

@@ -1271,9 +1271,10 @@ public final class ReferenceTests {
     }
 
     private static void call(int seed, Random r, TwoTowns x, Model m) {
-        int t = r.nextInt(20) == 0 ? r.nextInt(5) - 2 : r.nextInt(2);
-        int f = r.nextInt(20) == 0 ? r.nextInt(9) - 2 : r.nextInt(4);
-        int g = r.nextInt(20) == 0 ? r.nextInt(9) - 2 : r.nextInt(4);
+        int[] odd = {-2, -1, 2, 4, 5, 31, 32, 33, -31, Integer.MAX_VALUE, Integer.MIN_VALUE};
+        int t = r.nextInt(20) == 0 ? odd[r.nextInt(odd.length)] : r.nextInt(2);
+        int f = r.nextInt(20) == 0 ? odd[r.nextInt(odd.length)] : r.nextInt(4);
+        int g = r.nextInt(20) == 0 ? odd[r.nextInt(odd.length)] : r.nextInt(4);
         int w = r.nextInt(15) == 0 ? r.nextInt(9) - 2 : r.nextInt(2);
         boolean b = r.nextBoolean();
         String on = "(" + t + ", " + f + ", " + g + ", " + w + ")";
