@@ -1671,7 +1671,7 @@ public final class TwoTowns {
             for (int i = 0; i < many; i++) {
                 board.show(positions[i]);
                 boolean loose = Integer.bitCount(board.taken[0]) < hands;
-                if (loose && foundIn(board.code) == NEVER && isParted(board, rounds)) {
+                if (loose && foundOutIn(board.code) == NEVER && isParted(board, rounds)) {
                     foundIn[positions[i]] = rounds;
                     more = true;
                 }
@@ -1684,7 +1684,7 @@ public final class TwoTowns {
             for (int i = 0; i < many; i++) {
                 board.show(positions[i]);
                 boolean full = Integer.bitCount(board.taken[0]) >= hands;
-                if (full && foundIn(board.code) == NEVER && isPartedByLess(board, rounds)) {
+                if (full && foundOutIn(board.code) == NEVER && isPartedByLess(board, rounds)) {
                     foundIn[positions[i]] = rounds;
                 }
             }
@@ -1693,7 +1693,7 @@ public final class TwoTowns {
         private boolean isPartedByLess(Board board, int rounds) {
             for (int one = 0; one < MOST_FOLK; one++) {
                 int with = board.partner[one];
-                if (with != NONE && foundIn(board.code - DIGITS[one] * (with + 1)) <= rounds) {
+                if (with != NONE && foundOutIn(board.code - DIGITS[one] * (with + 1)) <= rounds) {
                     return true;
                 }
             }
@@ -1715,7 +1715,7 @@ public final class TwoTowns {
             for (int back = 0; back < MOST_FOLK; back++) {
                 if (board.isFree(1 - town, back)) {
                     int next = town == 0 ? board.codeWith(who, back) : board.codeWith(back, who);
-                    if (foundIn(next) >= rounds) {
+                    if (foundOutIn(next) >= rounds) {
                         return true;
                     }
                 }
@@ -1723,7 +1723,7 @@ public final class TwoTowns {
             return false;
         }
 
-        private int foundIn(int position) {
+        private int foundOutIn(int position) {
             return position >= 0 && position < POSITIONS ? foundIn[position] : 0;
         }
     }
