@@ -304,6 +304,28 @@ public final class BoundaryTests {
         same("a new one beside the old one", shown(x), fresh);
     }
 
+    @Sentence(promise = 1, says = "An object is used for at most 512 calls after it has been made")
+    private static void manyCallsOnOneObject() {
+        TwoTowns x = told(FOUR_EACH + "near a b;near b c;near c d;owes a b;owes f e;owes g h;");
+        TwoTowns y = claimed("all x all y all z all u or near x y or owes z u not same x u");
+        for (int i = 0; i < 62; i++) {
+            due("mend(4)", x.mend(4), -1);
+            due("hands(3)", x.hands(3), 2);
+            due("left()", x.left(), 2);
+            due("sided(1)", x.sided(1), 2);
+            due("plays", x.plays(9999, 99, 0), 99);
+            due("paint", x.paint(0, i % 4, 0), true);
+            due("undo", x.undo(), true);
+            due("count(10)", x.count(10), 0);
+        }
+        for (int i = 0; i < 100; i++) {
+            due("mark", y.mark(i % 4, false), true);
+            due("back", y.mark(i % 4, true), true);
+            due("models, the one of nobody", y.models(), 1);
+            due("sure", y.sure(), -1);
+        }
+    }
+
     // ---- promise 2: feed ----
 
     @Sentence(promise = 2, says = "others than 10 and 32 .. 126, and what is beyond 1,000, are left out")
@@ -318,7 +340,8 @@ public final class BoundaryTests {
         }
     }
 
-    @Sentence(promise = 2, says = "Up to 24 signs come behind the TAPE: the bytes of a, b, c, of each the highest first")
+    @Sentence(promise = 2, says = "Up to 24 signs come behind the TAPE: the bytes of a, b, c, of each the highest"
+            + " first")
     private static void bytesInOrder() {
         for (int place = 0; place < 24; place++) {
             char[] signs = " ".repeat(24).toCharArray();
@@ -387,6 +410,48 @@ public final class BoundaryTests {
         due("the tape's end", feed(x, " ".repeat(1000)), 1000);
     }
 
+    @Sentence(promise = 2, says = "The TAPE has at most 1,000 signs, 10 and 32 .. 126; what reads it takes it: it"
+            + " is empty then.")
+    private static void fullTapeEndsWithinAToken() {
+        String[] ends = {"folk", "fol", "f", "folk a of 1", "folk a of 1111", "folk a of 11111", "abcdefgh",
+                "abcdefghi", ";", "?"};
+        int[] faults = {1, 1, 1, 1, 4, 1, 1, 1, 1, 1};
+        int[] places = {4, 0, 0, 11, 10, 10, 0, 0, 0, 0};
+        for (int i = 0; i < ends.length; i++) {
+            TwoTowns x = new TwoTowns();
+            int blanks = 1000 - ends[i].length();
+            due("full", feed(x, " ".repeat(blanks) + ends[i]), 1000);
+            due("ending with " + ends[i], x.towns(), faults[i] + 16 * (blanks + places[i]));
+        }
+        TwoTowns x = new TwoTowns();
+        feed(x, " ".repeat(986) + "some x baker x");
+        due("a claim at the end of a full one", x.claim(), 0);
+        feed(x, " ".repeat(993) + "baker x");
+        due("a name of none at the end", x.claim(), 2 + 16 * 999);
+        feed(x, "1".repeat(1000));
+        due("digits alone", x.towns(), 1);
+        feed(x, "x".repeat(1000));
+        due("letters alone", x.claim(), 1);
+        feed(x, ";".repeat(1000));
+        due("other signs alone", x.towns(), 1);
+    }
+
+    @Sentence(promise = 2, says = "what reads it takes it: it is empty then")
+    private static void whatWasTakenIsNotReadAgain() {
+        String[] old = {"1".repeat(40), "x".repeat(40), ";".repeat(40), "folk ".repeat(8), " ".repeat(40)};
+        String[] cut = {"folk a of 1", "folk a", "folk a of", "fol", "folk a of 1;baker a", "folk a of 1;"};
+        int[] faults = {1 + 16 * 11, 1 + 16 * 6, 1 + 16 * 9, 1, 1 + 16 * 19, 0};
+        for (String before : old) {
+            for (int i = 0; i < cut.length; i++) {
+                TwoTowns x = new TwoTowns();
+                feed(x, before);
+                x.towns();
+                feed(x, cut[i]);
+                due(cut[i] + " behind " + before, x.towns(), faults[i]);
+            }
+        }
+    }
+
     // ---- promise 3: towns ----
 
     @Sentence(promise = 3, says = "TOWNS: any number of folk NAME of N ;")
@@ -432,7 +497,8 @@ public final class BoundaryTests {
 
     @Sentence(promise = 3, says = "TOKENS, each as long as can be, blanks (10, 32) between where one likes")
     private static void blanksWhereOneLikes() {
-        String[] fine = {"folk a of 1;", "folk\na\nof\n1\n;\n", "folk a of1;", "   folk   a   of   1   ;   ", "folk a of 1\n;"};
+        String[] fine = {"folk a of 1;", "folk\na\nof\n1\n;\n", "folk a of1;", "   folk   a   of   1   ;   ",
+                "folk a of 1\n;"};
         for (String text : fine) {
             due("one of " + text, told(text).count(0), 1);
         }
@@ -524,7 +590,8 @@ public final class BoundaryTests {
         due("as well as a debt", told(folk + "owes a b;near a b;").folk(0, 0, 2), 2);
     }
 
-    @Sentence(promise = 3, says = "owes: two FOLK told of one town, not the same, the first one owes the second one, each once so.")
+    @Sentence(promise = 3, says = "owes: two FOLK told of one town, not the same, the first one owes the second"
+            + " one, each once so.")
     private static void eachDebtOnce() {
         String folk = "folk a of 1;folk b of 1;folk c of 2;folk d of 2;";
         townsFault(folk + "owes a b;owes a ^b;", 3);
@@ -540,7 +607,8 @@ public final class BoundaryTests {
         due("not the other way", x.folk(1, 1, 3), 0);
     }
 
-    @Sentence(promise = 3, says = "A NAME is another WORD than folk, of, baker, widow, near, owes, not, and, or, some, all, two,"
+    @Sentence(promise = 3, says = "A NAME is another WORD than folk, of, baker, widow, near, owes, not, and, or,"
+            + " some, all, two,"
             + " same, x, y, z, u; no two are alike.")
     private static void reservedWordsAreNoNames() {
         for (String word : RESERVED.split(" ")) {
@@ -571,7 +639,7 @@ public final class BoundaryTests {
     private static void townsEndTooSoon() {
         String folk = "folk a of 1;folk b of 1;";
         String[] cut = {"folk", "folk c", "folk c of", "folk c of 1", "baker", "baker a", "widow", "widow a", "near",
-            "near a", "near a b", "owes", "owes a", "owes a b"};
+                "near a", "near a b", "owes", "owes a", "owes a b"};
         for (String text : cut) {
             for (String behind : new String[] {"", " ", "\n", "  \n  "}) {
                 townsFault(folk + text + behind + "^", 1);
@@ -599,10 +667,10 @@ public final class BoundaryTests {
 
     @Sentence(promise = 3, says = "1 it is none, or can't stand there")
     private static void eachTokenInEachPlace() {
-        String[][] forms = {{"folk", "new", "of", "1", ";"}, {"baker", "b", ";"}, {"widow", "b", ";"},
-            {"near", "a", "b", ";"}, {"owes", "a", "b", ";"}};
+        String[][] forms = {{"folk", "new", "of", "1", ";"}, {"baker", "b", ";"}, {"widow", "b", ";"}, {"near", "a",
+                "b", ";"}, {"owes", "a", "b", ";"}};
         String[] tokens = {"folk", "of", "baker", "widow", "near", "owes", "not", "same", "x", "a", "zed", "1", "2",
-            "12345", "abcdefghi", ";", "?", "A"};
+                "12345", "abcdefghi", ";", "?", "A"};
         for (String[] form : forms) {
             for (int place = 0; place < form.length; place++) {
                 for (String token : tokens) {
@@ -654,8 +722,8 @@ public final class BoundaryTests {
 
     @Sentence(promise = 3, says = "4 a NUMBER that is not as told")
     private static void noSuchNumber() {
-        for (String number : new String[] {"0", "3", "4", "9", "00", "10", "11", "12", "20", "22", "100", "0000", "0003",
-            "9999"}) {
+        for (String number : new String[] {"0", "3", "4", "9", "00", "10", "11", "12", "20", "22", "100", "0000",
+                "0003", "9999"}) {
             townsFault("folk a of ^" + number + ";", 4);
         }
         townsFault(FOUR_EACH + "folk i of ^3;", 4);
@@ -689,7 +757,8 @@ public final class BoundaryTests {
         due("found out still", y.count(3), 1);
     }
 
-    @Sentence(promise = 3, says = "nobody is pointed at, no CLAIM, nothing REPORTED, nothing can be undone, no MARK is there")
+    @Sentence(promise = 3, says = "nobody is pointed at, no CLAIM, nothing REPORTED, nothing can be undone, no MARK"
+            + " is there")
     private static void newTownsForgetAll() {
         for (String text : new String[] {"", FOUR_EACH, "folk a of 1;"}) {
             TwoTowns x = busy();
@@ -724,6 +793,27 @@ public final class BoundaryTests {
         x.towns();
         due("what was told before is gone", x.count(4), 0);
         due("one", x.count(0), 1);
+    }
+
+    @Sentence(promise = 3, says = "Without a FAULT TOWNS are the TOWNS from then on")
+    private static void townsAgainAndAgain() {
+        TwoTowns x = new TwoTowns();
+        String all = "baker a;widow a;near a b;owes a b;owes b a;baker e;widow e;near e f;owes e f;owes f e;";
+        for (int i = 0; i < 4; i++) {
+            feed(x, FOUR_EACH + all);
+            due("with all", x.towns(), 0);
+            due("bakers", x.count(4) + x.count(5), 2);
+            feed(x, FOUR_EACH + "baker ^;");
+            due("a fault", x.towns(), 1 + 16 * 102);
+            due("bakers still", x.count(4) + x.count(5), 2);
+            feed(x, FOUR_EACH);
+            due("with nothing", x.towns(), 0);
+            for (int who = 0; who < 8; who++) {
+                for (int what = 0; what < 5; what++) {
+                    due("nothing is left of it", x.folk(who / 4, who % 4, what), 0);
+                }
+            }
+        }
     }
 
     // ---- promise 4: claim ----
@@ -785,7 +875,8 @@ public final class BoundaryTests {
         due("an empty one", x.claim(), 1);
     }
 
-    @Sentence(promise = 4, says = "V is x, y, z, u; one of baker, widow, near, owes, same lies within a some, all or two of that V")
+    @Sentence(promise = 4, says = "V is x, y, z, u; one of baker, widow, near, owes, same lies within a some, all"
+            + " or two of that V")
     private static void eachNameInEachPlace() {
         String[] atoms = {"baker 1", "widow 1", "near 1 2", "owes 1 2", "same 1 2"};
         String[] names = {"x", "y", "z", "u"};
@@ -849,7 +940,8 @@ public final class BoundaryTests {
             claimFault(within + "^", 1);
         }
         for (String word : new String[] {"and", "or"}) {
-            due("the first ones", claimed("some x " + (word + " ").repeat(6) + "baker x" + " baker x".repeat(6)).measure(2),
+            due("the first ones", claimed("some x " + (word + " ").repeat(6) + "baker x"
+                    + " baker x".repeat(6)).measure(2),
                     14);
             due("the second ones", claimed("some x " + (word + " baker x ").repeat(6) + "baker x").measure(2), 14);
             claimFault("some x " + (word + " ").repeat(7) + "^baker x", 5);
@@ -886,7 +978,8 @@ public final class BoundaryTests {
         return "and " + sentence(first) + " " + sentence(length - 1 - first);
     }
 
-    @Sentence(promise = 4, says = "5 one too many: the NUMBER of a town of four FOLK; the first word of an S within 8 others, or the 61st.")
+    @Sentence(promise = 4, says = "5 one too many: the NUMBER of a town of four FOLK; the first word of an S within"
+            + " 8 others, or the 61st.")
     private static void bothLimitsAtOnce() {
         String wide = "some x and " + sentence(52) + " not not not not not ";
         due("the 60th within 7 others", claimed(wide + "baker x").measure(2), 60);
@@ -898,8 +991,8 @@ public final class BoundaryTests {
     @Sentence(promise = 4, says = "the end being one at the text's length")
     private static void claimEndsTooSoon() {
         String[] cut = {"not", "and", "and some x baker x", "or", "or some x baker x", "some", "all", "two", "some x",
-            "some x baker", "some x widow", "some x near", "some x near x", "some x owes", "some x owes x", "some x same",
-            "some x same x", "some x and baker x"};
+                "some x baker", "some x widow", "some x near", "some x near x", "some x owes", "some x owes x",
+                "some x same", "some x same x", "some x and baker x"};
         for (String text : cut) {
             for (String behind : new String[] {"", " ", "\n\n"}) {
                 claimFault(text + behind + "^", 1);
@@ -942,6 +1035,32 @@ public final class BoundaryTests {
         claimFault("^of some v", 1);
         claimFault("not ".repeat(8) + "^not ?", 5);
         claimFault("not ".repeat(7) + "^? not", 1);
+    }
+
+    @Sentence(promise = 4, says = "A CLAIM is the CLAIM.")
+    private static void claimsAgainAndAgain() {
+        TwoTowns x = plain(4, 4);
+        for (int i = 0; i < 4; i++) {
+            // Of two at least, and of somebody who is near another one.
+            claimIs(x, "some x all y two z some u near x u", 4, 4, 5, 4 + 56);
+            feed(x, "some x baker ;");
+            due("a fault", x.claim(), 1 + 16 * 13);
+            claimIs(x, "some x baker x", 1, 1, 2, 63);
+            claimIs(x, "not some x same x x", 1, 1, 3, 1);
+            feed(x, "some");
+            due("a fault", x.claim(), 1 + 16 * 4);
+            due("still the last one", x.models(), 1);
+            claimIs(x, "two u same u u", 1, 1, 2, 72);
+            claimIs(x, "all z all z not widow z", 2, 1, 4, 75);
+        }
+    }
+
+    private static void claimIs(TwoTowns x, String claim, int depth, int names, int length, int models) {
+        say(x, claim);
+        due("depth of " + claim, x.measure(0), depth);
+        due("names of " + claim, x.measure(1), names);
+        due("length of " + claim, x.measure(2), length);
+        due("models of " + claim, x.models(), models);
     }
 
     // ---- promise 5: folk ----
@@ -1059,8 +1178,9 @@ public final class BoundaryTests {
 
     @Sentence(promise = 6, says = "as well if the POSITION is not ALIKE")
     private static void eachWayToBeUnlike() {
-        String[] unlike = {"baker a;", "baker e;", "widow a;", "widow e;", "near a b;", "near e f;", "owes a b;", "owes b a;",
-            "owes e f;", "owes f e;", "owes a b;owes f e;", "near a b;owes e f;", "baker a;widow e;", "baker b;", "widow f;"};
+        String[] unlike = {"baker a;", "baker e;", "widow a;", "widow e;", "near a b;", "near e f;", "owes a b;",
+                "owes b a;", "owes e f;", "owes f e;", "owes a b;owes f e;", "near a b;owes e f;", "baker a;widow e;",
+                "baker b;", "widow f;"};
         for (String text : unlike) {
             TwoTowns x = told(FOUR_EACH + text);
             if (x.point(0, 0, 0) == 1) {
@@ -1069,8 +1189,8 @@ public final class BoundaryTests {
             due("found out with " + text, x.count(3), 1);
             due("left()", x.left(), 0);
         }
-        String[] alike = {"baker a;baker e;", "near a b;near e f;", "owes a b;owes e f;", "owes b a;owes f e;", "near a c;",
-            "owes d b;", "baker c;", "widow h;"};
+        String[] alike = {"baker a;baker e;", "near a b;near e f;", "owes a b;owes e f;", "owes b a;owes f e;",
+                "near a c;", "owes d b;", "baker c;", "widow h;"};
         for (String text : alike) {
             TwoTowns x = told(FOUR_EACH + text);
             due("one pair with " + text, x.point(0, 0, 0), 1);
@@ -1104,7 +1224,8 @@ public final class BoundaryTests {
         unchanged(nobody, "nobody was left", x -> x.point(1, 0, -1), -1);
     }
 
-    @Sentence(promise = 6, says = "(whether the POSITION is ALIKE goes by how the FOLK are then; where nobody was left it stays so)")
+    @Sentence(promise = 6, says = "(whether the POSITION is ALIKE goes by how the FOLK are then; where nobody was"
+            + " left it stays so)")
     private static void foundOutNoMore() {
         TwoTowns x = told(FOUR_EACH + "baker a;");
         x.point(0, 0, 0);
@@ -1209,7 +1330,8 @@ public final class BoundaryTests {
         }
     }
 
-    @Sentence(promise = 8, says = "two of one town are near (0), the first one owes the second one (1) from then on, or no more")
+    @Sentence(promise = 8, says = "two of one town are near (0), the first one owes the second one (1) from then"
+            + " on, or no more")
     private static void linkOnAndOff() {
         for (int i = 0; i < 64; i++) {
             int town = i / 32;
@@ -1319,7 +1441,8 @@ public final class BoundaryTests {
         due("16 are undone", undone, 16);
         due("widows of the second", x.count(7), 0);
         due("near", x.folk(1, 0, 2), 0);
-        // Of the ten paints that were left of the first town the last five are undone: a is painted twice, the others once.
+        // Of the ten paints that were left of the first town the last five are undone: a is painted twice, the
+        // others once.
         due("bakers of the first", x.count(4), 14);
     }
 
@@ -1342,6 +1465,29 @@ public final class BoundaryTests {
             same("undone", shown(x), shots[i]);
         }
         due("no more", x.undo(), false);
+    }
+
+    @Sentence(promise = 9, says = "UNDO: ROUNDS and these")
+    private static void undoEachPairAndEachChange() {
+        for (int i = 0; i < 32; i++) {
+            int town = i / 16;
+            int one = i / 4 % 4;
+            int back = i % 4;
+            TwoTowns x = plain(4, 4);
+            String before = shown(x);
+            due("a pair", x.point(town, one, back), 1);
+            due("undone", x.undo(), true);
+            same("point(" + town + ", " + one + ", " + back + ")", shown(x), before);
+            x.point(town, one, back);
+            String pair = shown(x);
+            for (int[] by : changes(4)) {
+                change(x, town, by);
+                due("a change undone", x.undo(), true);
+            }
+            same("the pair stays", shown(x), pair);
+            x.undo();
+            same("none", shown(x), before);
+        }
     }
 
     @Sentence(promise = 9, says = "UNDO: true;")
@@ -1493,7 +1639,8 @@ public final class BoundaryTests {
         unchanged(nobody, "nobody was left", x -> x.reply(0, 1), -1);
     }
 
-    @Sentence(promise = 12, says = "REPLY: at whom to point back so that it lasts the longest; of equal ones the first one.")
+    @Sentence(promise = 12, says = "REPLY: at whom to point back so that it lasts the longest; of equal ones the"
+            + " first one.")
     private static void replyFromFirstToLast() {
         for (int i = 0; i < 4; i++) {
             TwoTowns x = told(FOUR_EACH + "widow a;widow " + (char) ('e' + i) + ";");
@@ -1520,6 +1667,16 @@ public final class BoundaryTests {
         x.point(0, 0, 2);
         due("to b", x.reply(0, 1), 3);
         due("to e", x.reply(1, 0), 2);
+    }
+
+    @Sentence(promise = 12, says = "the other one so that it lasts as long as can be")
+    private static void replyThatLastsARoundLonger() {
+        TwoTowns x = told("folk a of 1;folk b of 1;folk e of 2;folk f of 2;baker e;");
+        due("not at the baker, it is found out at once", x.reply(0, 0), 1);
+        due("nor there", x.reply(0, 1), 1);
+        due("to the baker: the first one", x.reply(1, 0), 0);
+        x.point(0, 0, 1);
+        due("the baker is left", x.reply(0, 1), 0);
     }
 
     @Sentence(promise = 13, says = "ROUNDS; NONE: never.")
@@ -1558,7 +1715,8 @@ public final class BoundaryTests {
         }
     }
 
-    @Sentence(promise = 14, says = "SIDED: likewise, if one may point in one town alone, to be pointed back at in the other one.")
+    @Sentence(promise = 14, says = "SIDED: likewise, if one may point in one town alone, to be pointed back at in"
+            + " the other one.")
     private static void sidedFromOneToNever() {
         for (int first = 0; first <= 4; first++) {
             for (int second = 0; second <= 4; second++) {
@@ -1572,6 +1730,29 @@ public final class BoundaryTests {
         due("all four", x.sided(1), 4);
         x.point(0, 0, 0);
         due("found out, from no pairs", x.sided(1), 4);
+    }
+
+    @Sentence(promise = 14, says = "if one may point in one town alone")
+    private static void sidedAloneIsSided() {
+        // What is asked behind it is of both towns again.
+        for (int town = 0; town < 2; town++) {
+            TwoTowns x = told("folk a of 1;folk b of 1;folk c of 1;folk e of 2;folk f of 2;folk g of 2;"
+                    + "near a b;near b c;near e f;");
+            due("sided", x.sided(town), 3);
+            due("left()", x.left(), 2);
+            x.sided(town);
+            due("rounds()", x.rounds(), 2);
+            x.sided(town);
+            due("hint()", x.hint(), 1);
+            x.sided(town);
+            due("reply()", x.reply(0, 0), 0);
+            x.sided(town);
+            due("keeps()", x.keeps(0, 1, 1), 0);
+            x.sided(town);
+            due("keeps()", x.keeps(0, 0, 1), 3);
+            x.sided(town);
+            due("mend()", x.mend(2), 1);
+        }
     }
 
     @Sentence(promise = 15, says = "KEEPS, as bits; NONE: others.")
@@ -1596,7 +1777,8 @@ public final class BoundaryTests {
         for (int rounds = 0; rounds <= 4; rounds++) {
             for (int many = 0; many <= 4; many++) {
                 TwoTowns x = plain(1, many);
-                due("1 and " + many + ", " + rounds, x.keeps(0, 0, rounds), many == 1 || rounds < 1 ? (1 << many) - 1 : 0);
+                due("1 and " + many + ", " + rounds, x.keeps(0, 0, rounds),
+                        many == 1 || rounds < 1 ? (1 << many) - 1 : 0);
                 TwoTowns y = plain(4, many);
                 int want = many == 4 || rounds < many ? (1 << many) - 1 : 0;
                 due("4 and " + many + ", " + rounds, y.keeps(0, 3, rounds), want);
@@ -1607,7 +1789,8 @@ public final class BoundaryTests {
         }
     }
 
-    @Sentence(promise = 15, says = "in a pair with one, and no other pairs, is such that it is not FOUND OUT in so many")
+    @Sentence(promise = 15, says = "in a pair with one, and no other pairs, is such that it is not FOUND OUT in so"
+            + " many")
     private static void keepsWhateverWasPointedAt() {
         TwoTowns x = told(FOUR_EACH + "baker a;baker h;");
         due("no round: marks alone", x.keeps(0, 0, 0), 8);
@@ -1641,7 +1824,8 @@ public final class BoundaryTests {
         }
     }
 
-    @Sentence(promise = 16, says = "two are on one in one town and on two in the other one, or if there is nobody to put it on")
+    @Sentence(promise = 16, says = "two are on one in one town and on two in the other one, or if there is nobody"
+            + " to put it on")
     private static void handsOnNobody() {
         for (int many = 1; many <= 3; many++) {
             due("nobody in the second town", plain(4, 0).hands(many), 1);
@@ -1665,6 +1849,38 @@ public final class BoundaryTests {
         due("never all the same", x.hands(3), -1);
     }
 
+    @Sentence(promise = 16, says = "puts one of his, put on or not, on somebody in either town (whoever else has a"
+            + " hand on him)")
+    private static void handsTakenOffAgain() {
+        // A hand on h (back: c), one on f (back: a), the first one taken off and put on g: a owes nobody.
+        TwoTowns x = told(FOUR_EACH + "owes b c;owes c a;owes d a;owes e h;owes h f;owes f g;");
+        due("by two hands", x.hands(2), 3);
+        due("by one hand", x.hands(1), -1);
+        TwoTowns y = told(FOUR_EACH + "near a b;near b c;near c d;near d a;near e f;near f g;near g h;");
+        due("a ring and a row by two", y.hands(2), -1);
+        due("a ring and a row by three", y.hands(3), 3);
+    }
+
+    @Sentence(promise = 16, says = "none put on at first; in each ROUND the first one puts one of his")
+    private static void handsAskedAgainAndAgain() {
+        TwoTowns x = plain(4, 4);
+        for (int i = 0; i < 3; i++) {
+            for (int many = 3; many >= 1; many--) {
+                due("never", x.hands(many), -1);
+            }
+            x.link(0, 0, 1, 0);
+            due("one hand sees no neighbour", x.hands(1), -1);
+            due("two hands do", x.hands(2), 2);
+            due("three hands do", x.hands(3), 2);
+            x.paint(1, 3, 1);
+            for (int many = 1; many <= 3; many++) {
+                due("by the widow", x.hands(many), 1);
+            }
+            x.undo();
+            x.undo();
+        }
+    }
+
     // ---- promises 17 to 20: colours, ways, selves, orbit ----
 
     @Sentence(promise = 17, says = "COLOURS, what 0: how often, 1: how many, 2: 1 unlike many; NONE: others.")
@@ -1686,16 +1902,22 @@ public final class BoundaryTests {
         coloursAre(plain(3, 4), 0, 1, 1);
         coloursAre(plain(4, 4), 0, 1, 0);
         // Two rows of debts, one of widows: ends and middles are told, then the two of the middle.
-        coloursAre(told(FOUR_EACH + "widow e;widow f;widow g;widow h;owes a b;owes b c;owes c d;owes e f;owes f g;owes g h;"),
+        coloursAre(told(FOUR_EACH
+                + "widow e;widow f;widow g;widow h;owes a b;owes b c;owes c d;owes e f;owes f g;owes g h;"),
                 2, 8, 1);
+        // By how many one owes, then by whom, then d and g, and b and f, who are owed by them, the last.
+        coloursAre(told(FOUR_EACH + "baker a;owes c d;owes d b;owes d c;owes e h;owes g e;owes g f;owes h g;"), 4, 8,
+                1);
         // By marks alone all are told: nothing is done anew with more.
         coloursAre(told(FOUR_EACH + "baker a;baker b;widow b;widow c;baker e;baker f;widow f;widow g;"), 0, 4, 0);
         coloursAre(told(FOUR_EACH + "near a b;near c d;near e f;near g h;"), 0, 1, 0);
         coloursAre(told(FOUR_EACH + "near a b;near e f;"), 1, 2, 0);
         coloursAre(told(FOUR_EACH + "near a b;"), 1, 2, 1);
         // A row with a baker at its end: from there on one after the other is told.
-        coloursAre(told("folk a of 1;folk b of 1;folk c of 1;folk d of 1;near a b;near b c;near c d;near d a;baker a;"), 1, 3, 1);
-        coloursAre(told("folk a of 1;folk b of 1;folk c of 1;folk d of 1;near a b;near b c;near c d;baker a;"), 1, 4, 1);
+        coloursAre(told("folk a of 1;folk b of 1;folk c of 1;folk d of 1;near a b;near b c;near c d;near d a;baker"
+                + " a;"), 1, 3, 1);
+        coloursAre(told("folk a of 1;folk b of 1;folk c of 1;folk d of 1;near a b;near b c;near c d;baker a;"), 1, 4,
+                1);
     }
 
     private static void coloursAre(TwoTowns x, int often, int many, int unlike) {
@@ -1707,14 +1929,44 @@ public final class BoundaryTests {
     @Sentence(promise = 17, says = "whether some COLOUR is of unlike many in both towns")
     private static void coloursOfUnlikeMany() {
         // As many colours, as many folk, but two of one and one of the other.
-        coloursAre(told("folk a of 1;folk b of 1;folk c of 1;folk e of 2;folk f of 2;folk g of 2;baker a;baker b;baker e;"),
+        coloursAre(told("folk a of 1;folk b of 1;folk c of 1;folk e of 2;folk f of 2;folk g of 2;baker a;baker"
+                + " b;baker e;"),
                 0, 2, 1);
         coloursAre(told("folk a of 1;folk b of 1;folk e of 2;folk f of 2;baker a;baker f;"), 0, 2, 0);
         coloursAre(told("folk a of 1;folk b of 1;folk e of 2;folk f of 2;owes a b;owes f e;"), 1, 2, 0);
         coloursAre(told("folk a of 1;folk b of 1;folk e of 2;folk f of 2;owes a b;near f e;"), 1, 3, 1);
     }
 
-    @Sentence(promise = 18, says = "WAYS: of pairing all FOLK of the first town with all of the second one so that it is ALIKE.")
+    @Sentence(promise = 17, says = "who are of one COLOUR, and are near to as many of each COLOUR, owe as many of"
+            + " each, are owed by as many of each")
+    private static void coloursOfTheOtherTownAlone() {
+        // e and f are told apart by g and h, whose colours, like theirs, are of no one of the first town.
+        coloursAre(told(FOUR_EACH + "baker b;widow c;baker d;widow d;baker g;baker h;near e g;near f h;owes g h;"), 2,
+                8, 1);
+        coloursAre(told(FOUR_EACH + "owes a b;owes a c;owes e f;owes f e;"), 1, 4, 1);
+        coloursAre(told(FOUR_EACH + "near a b;near b c;near c a;near e f;near f g;near g e;"), 1, 2, 0);
+        coloursAre(told(FOUR_EACH + "owes a b;owes b c;owes c a;owes e g;owes g f;owes f e;"), 1, 2, 0);
+        coloursAre(told(FOUR_EACH
+                + "near a b;near b c;near c d;near d a;near e f;near f g;near g h;near h e;near e g;"), 2, 3, 1);
+    }
+
+    @Sentence(promise = 17, says = "how often it was done anew with more of them; how many there are")
+    private static void coloursAskedAgainAndAgain() {
+        TwoTowns x = plain(4, 4);
+        for (int i = 0; i < 3; i++) {
+            coloursAre(x, 0, 1, 0);
+            x.link(0, 0, 1, 1);
+            coloursAre(x, 1, 3, 1);
+            coloursAre(x, 1, 3, 1);
+            x.paint(1, 3, 0);
+            coloursAre(x, 1, 4, 1);
+            x.undo();
+            x.undo();
+        }
+    }
+
+    @Sentence(promise = 18, says = "WAYS: of pairing all FOLK of the first town with all of the second one so that"
+            + " it is ALIKE.")
     private static void waysFromNoneToAll() {
         int[] all = {1, 1, 2, 6, 24};
         for (int first = 0; first <= 4; first++) {
@@ -1801,8 +2053,8 @@ public final class BoundaryTests {
 
     @Sentence(promise = 21, says = "the fewest PAINTS and LINKS of the first town (0 to 2)")
     private static void mendByOneTwoAndMore() {
-        String[] changes = {"baker d;", "widow c;", "near c d;", "owes c d;", "owes d c;", "baker h;", "widow e;", "near e f;",
-            "owes e f;", "owes h g;"};
+        String[] changes = {"baker d;", "widow c;", "near c d;", "owes c d;", "owes d c;", "baker h;", "widow e;",
+                "near e f;", "owes e f;", "owes h g;"};
         for (String one : changes) {
             Made by = () -> told(FOUR_EACH + one);
             unchanged(by, "by one: " + one, x -> x.mend(4), 1);
@@ -1815,6 +2067,48 @@ public final class BoundaryTests {
         due("three links", told(FOUR_EACH + "near a b;near b c;near c d;").mend(4), -1);
         due("three debts of the second", told(FOUR_EACH + "owes e f;owes f g;owes g h;").mend(4), -1);
         due("two debts of the second", told(FOUR_EACH + "owes e f;owes f e;").mend(4), 2);
+    }
+
+    @Sentence(promise = 21, says = "the fewest PAINTS and LINKS of the first town (0 to 2), from no pairs")
+    private static void mendByEachOneAndEachTwo() {
+        for (int many = 1; many <= 4; many++) {
+            List<int[]> changes = changes(many);
+            for (int i = 0; i < changes.size(); i++) {
+                TwoTowns x = plain(many, many);
+                change(x, 1, changes.get(i));
+                due("one of the second of " + many, x.mend(4), 1);
+                TwoTowns y = plain(many, many);
+                change(y, 0, changes.get(i));
+                due("one of the first of " + many, y.mend(4), 1);
+                for (int j = 0; j < i; j++) {
+                    change(y, 0, changes.get(j));
+                    due("two of the first of " + many, y.mend(4), 2);
+                    change(y, 0, changes.get(j));
+                }
+            }
+        }
+    }
+
+    /** All paints and links of a town of so many: paints as who, what; links as who, other, what. */
+    private static List<int[]> changes(int many) {
+        List<int[]> all = new ArrayList<>();
+        for (int who = 0; who < many; who++) {
+            all.add(new int[] {who, 0});
+            all.add(new int[] {who, 1});
+            for (int other = 0; other < many; other++) {
+                if (who < other) {
+                    all.add(new int[] {who, other, 0});
+                }
+                if (who != other) {
+                    all.add(new int[] {who, other, 1});
+                }
+            }
+        }
+        return all;
+    }
+
+    private static void change(TwoTowns x, int town, int[] by) {
+        due("a change", by.length == 2 ? x.paint(town, by[0], by[1]) : x.link(town, by[0], by[1], by[2]), true);
     }
 
     @Sentence(promise = 21, says = "from no pairs, so that it is not FOUND OUT in so many")
@@ -1867,7 +2161,8 @@ public final class BoundaryTests {
         unchanged(() -> plain(1, 0), "nobody there", x -> x.far(1, 0, 0), -1);
     }
 
-    @Sentence(promise = 23, says = "FAR: by how many steps from one that is near to the next, at least, one is from another one of that town.")
+    @Sentence(promise = 23, says = "FAR: by how many steps from one that is near to the next, at least, one is from"
+            + " another one of that town.")
     private static void farFromNoneToNever() {
         TwoTowns x = told(FOUR_EACH + "near a b;near b c;near c d;owes e f;owes f e;");
         for (int one = 0; one < 4; one++) {
@@ -1930,7 +2225,8 @@ public final class BoundaryTests {
     @Sentence(promise = 26, says = "MOST: who is near to the most; of equal ones the first.")
     private static void mostFromFirstToLast() {
         due("near nobody: the first", plain(4, 4).most(0), 0);
-        due("near all: the first", told(FOUR_EACH + "near e f;near e g;near e h;near f g;near f h;near g h;").most(1), 0);
+        due("near all: the first", told(FOUR_EACH + "near e f;near e g;near e h;near f g;near f h;near g h;").most(1),
+                0);
         due("the last", told(FOUR_EACH + "near h e;near h f;").most(1), 3);
         due("the first of two", told(FOUR_EACH + "near c d;").most(0), 2);
         due("debts are none", told(FOUR_EACH + "owes d a;owes d b;near b c;").most(0), 1);
@@ -2033,6 +2329,69 @@ public final class BoundaryTests {
         due("everybody is himself", x.so(0), 1);
     }
 
+    @Sentence(promise = 28, says = "V is x, y, z, u")
+    private static void soByEachTwoNames() {
+        String[] names = {"x", "y", "z", "u"};
+        for (String v : names) {
+            for (String w : names) {
+                if (!v.equals(w)) {
+                    soFromOneToAnother("some " + v + " and baker " + v + " some " + w + " and widow " + w + " owes "
+                            + v + " " + w);
+                }
+            }
+        }
+        soFromOneToAnother("some z some y and and baker z widow y some x some u and owes x u and same x z same y u");
+    }
+
+    /** A claim that a baker owes a widow, of each one and each other one. */
+    private static void soFromOneToAnother(String claim) {
+        TwoTowns x = plain(4, 4);
+        say(x, claim);
+        for (int one = 0; one < 4; one++) {
+            for (int other = 0; other < 4; other++) {
+                if (one != other) {
+                    x.paint(0, one, 0);
+                    x.paint(0, other, 1);
+                    x.link(0, other, one, 1);
+                    due("the other way", x.so(0), 0);
+                    x.link(0, one, other, 1);
+                    due(one + " owes " + other, x.so(0), 1);
+                    for (int i = 0; i < 4; i++) {
+                        x.undo();
+                    }
+                }
+            }
+        }
+        due("nobody any more", x.so(0), 0);
+    }
+
+    @Sentence(promise = 28, says = "an S is 60 S's long at most")
+    private static void soOfTheLongestClaim() {
+        for (String v : new String[] {"x", "y", "z", "u"}) {
+            TwoTowns x = plain(4, 3);
+            // 15 times 3 parts, joined by 14, and the first one.
+            say(x, ("all x " + joined("and", "or baker x widow x", 15)).replace("x", v));
+            due("60", x.measure(2), 60);
+            due("nobody is either", x.so(0), 0);
+            for (int who = 0; who < 4; who++) {
+                due("not all yet", x.so(0), 0);
+                x.paint(0, who, who % 2);
+            }
+            due("each is one of them", x.so(0), 1);
+            due("not in the other", x.so(1), 0);
+            due("parts", x.parts(), true);
+            due("models", x.models(), 12);
+        }
+    }
+
+    /** So many of one text, joined by a word ahead of each two, few within one another. */
+    private static String joined(String word, String text, int many) {
+        if (many <= 1) {
+            return text;
+        }
+        return word + " " + joined(word, text, many / 2) + " " + joined(word, text, many - many / 2);
+    }
+
     @Sentence(promise = 29, says = "PARTS: true; false: it does not, there is no CLAIM.")
     private static void partsOrNot() {
         unchanged(TwoTowns::new, "there is none", x -> number(x.parts()), 0);
@@ -2083,6 +2442,21 @@ public final class BoundaryTests {
         due("whatever the towns are", x.models(), 63);
     }
 
+    @Sentence(promise = 30, says = "(all ways in which these, by numbers, are bakers, and near)")
+    private static void modelsBehindOtherQuestions() {
+        TwoTowns x = told(FOUR_EACH + "baker a;widow b;near a b;owes a b;owes b a;owes c d;owes d a;widow c;");
+        String[] claims = {"some x some y owes x y", "some x widow x", "some x baker x", "some x some y near x y"};
+        int[] want = {0, 0, 63, 60};
+        for (int i = 0; i < claims.length; i++) {
+            say(x, claims[i]);
+            due("mend", x.mend(1), -1);
+            due("models of " + claims[i], x.models(), want[i]);
+            due("mend", x.mend(4), -1);
+            due("so", x.so(0), 1);
+            due("models again", x.models(), want[i]);
+        }
+    }
+
     private static void modelsAre(String claim, int want) {
         due("models() of " + claim, claimed(claim).models(), want);
     }
@@ -2127,7 +2501,8 @@ public final class BoundaryTests {
         due("without bakers", x.lost(0), 12);
     }
 
-    @Sentence(promise = 32, says = "LOST, what 0: how many, 1: the fewest FOLK, 2: the most; NONE: others, none (but 0).")
+    @Sentence(promise = 32, says = "LOST, what 0: how many, 1: the fewest FOLK, 2: the most; NONE: others, none"
+            + " (but 0).")
     private static void lostRefused() {
         for (int bad : new int[] {-1, 3, 4, -2, 32, Integer.MIN_VALUE, Integer.MAX_VALUE}) {
             refused("lost(" + bad + ")", x -> x.lost(bad), -1);
@@ -2142,7 +2517,7 @@ public final class BoundaryTests {
     @Sentence(promise = 32, says = "LOST: how many there are by which all REPORTED is so; the fewest FOLK, the most.")
     private static void lostOfEachSize() {
         String[] atLeast = {"some x same x x", "two x same x x",
-            "some x some y some z and not same x y and not same y z not same x z"};
+                "some x some y some z and not same x y and not same y z not same x z"};
         int[] many = {1, 2, 8, 64};
         for (int fewest = 0; fewest <= 3; fewest++) {
             for (int most = fewest; most <= 3; most++) {
@@ -2244,7 +2619,8 @@ public final class BoundaryTests {
         }, THROWS);
     }
 
-    @Sentence(promise = 34, says = "what NONE: how many; i: the i-th as 2 * the first one's choice + the other one's (1 points; the least first).")
+    @Sentence(promise = 34, says = "what NONE: how many; i: the i-th as 2 * the first one's choice + the other"
+            + " one's (1 points; the least first).")
     private static void restsFromNoneToNine() {
         for (int both = 0; both <= 9; both++) {
             for (int loses = 0; loses <= 9; loses++) {
@@ -2325,11 +2701,13 @@ public final class BoundaryTests {
         unchanged(BoundaryTests::busyWithSigns, "nothing is done by it", x -> Math.min(0, x.plays(7, 99, 1)), 0);
     }
 
-    @Sentence(promise = 35, says = "A DRAW below m: g becomes (g * 1103515245 + 12345) modulo 2147483648 (g is the SEED at first);"
+    @Sentence(promise = 35, says = "A DRAW below m: g becomes (g * 1103515245 + 12345) modulo 2147483648 (g is the"
+            + " SEED at first);"
             + " it is g / 65536, cut, modulo m.")
     private static void playsByEachSeed() {
         for (int seed : new int[] {0, 1, 2, 4999, 9998, 9999}) {
-            TwoTowns x = told("folk a of 1;folk b of 1;folk c of 1;folk e of 2;folk f of 2;folk g of 2;baker b;widow g;near a c;");
+            TwoTowns x = told("folk a of 1;folk b of 1;folk c of 1;folk e of 2;folk f of 2;folk g of 2;baker"
+                    + " b;widow g;near a c;");
             for (int many : new int[] {1, 2, 50, 99}) {
                 int[] want = played(seed, many);
                 due("found out by " + seed, x.plays(seed, many, 0), want[0]);
@@ -2367,13 +2745,61 @@ public final class BoundaryTests {
         return sums;
     }
 
+    @Sentence(promise = 35, says = "then, if somebody is left in the other town, a DRAW below these: who is pointed"
+            + " back at")
+    private static void playsWhereNobodyIsLeft() {
+        int[][][] towns = {{{0, 0, 1}, {0}}, {{0}, {0, 1, 0, 1}}, {{0, 1, 0, 1}, {1, 0, 0}}, {{}, {1, 0}}, {{0, 0, 0},
+                {0, 0}}};
+        for (int[][] bakers : towns) {
+            TwoTowns x = plain(bakers[0].length, bakers[1].length);
+            for (int town = 0; town < 2; town++) {
+                for (int who = 0; who < bakers[town].length; who++) {
+                    if (bakers[town][who] == 1) {
+                        x.paint(town, who, 0);
+                    }
+                }
+            }
+            for (int seed : new int[] {0, 77, 9999}) {
+                int[] want = playedByMarks(seed, 99, bakers);
+                due("found out by " + seed, x.plays(seed, 99, 0), want[0]);
+                due("rounds by " + seed, x.plays(seed, 99, 1), want[1]);
+            }
+        }
+    }
+
+    /** Of two towns of bakers (1) and others (0) without links. */
+    private static int[] playedByMarks(int seed, int many, int[][] bakers) {
+        BigInteger[] g = {BigInteger.valueOf(seed)};
+        int[] sums = new int[2];
+        for (int i = 0; i < many; i++) {
+            List<List<Integer>> left = List.of(new ArrayList<>(), new ArrayList<>());
+            for (int town = 0; town < 2; town++) {
+                for (int mark : bakers[town]) {
+                    left.get(town).add(mark);
+                }
+            }
+            boolean found = false;
+            while (!found && !(left.get(0).isEmpty() && left.get(1).isEmpty())) {
+                sums[1]++;
+                int one = draw(g, left.get(0).size() + left.get(1).size());
+                int town = one < left.get(0).size() ? 0 : 1;
+                int mark = left.get(town).remove(town == 0 ? one : one - left.get(0).size());
+                List<Integer> others = left.get(1 - town);
+                found = others.isEmpty() || others.remove(draw(g, others.size())) != mark;
+            }
+            sums[0] += number(found);
+        }
+        return sums;
+    }
+
     private static int draw(BigInteger[] g, int below) {
         BigInteger turned = g[0].multiply(BigInteger.valueOf(1103515245)).add(BigInteger.valueOf(12345));
         g[0] = turned.mod(BigInteger.valueOf(2147483648L));
         return g[0].divide(BigInteger.valueOf(65536)).mod(BigInteger.valueOf(below)).intValue();
     }
 
-    @Sentence(promise = 36, says = "A MARK is laid (back: gone back to): true; false: none such, nothing is on it (back).")
+    @Sentence(promise = 36, says = "A MARK is laid (back: gone back to): true; false: none such, nothing is on it"
+            + " (back).")
     private static void marksRefused() {
         for (int bad : new int[] {-1, 4, 5, -2, 32, 33, Integer.MIN_VALUE, Integer.MAX_VALUE}) {
             refused("mark(" + bad + ", false)", x -> number(x.mark(bad, false)), 0);
@@ -2493,8 +2919,10 @@ public final class BoundaryTests {
         }
     }
 
-    @Sentence(promise = 37, says = "What 0, 1: FOLK of each town, 2: pairs, 3: 1 FOUND OUT, 4, 5: bakers of each, as bits,"
-            + " 6, 7: widows of each, as bits, 8: 1 there is a CLAIM, 9: REPORTED, 10: what can be undone, 11: signs on the TAPE.")
+    @Sentence(promise = 37, says = "What 0, 1: FOLK of each town, 2: pairs, 3: 1 FOUND OUT, 4, 5: bakers of each,"
+            + " as bits,"
+            + " 6, 7: widows of each, as bits, 8: 1 there is a CLAIM, 9: REPORTED, 10: what can be undone, 11:"
+                    + " signs on the TAPE.")
     private static void countFromNoneToMost() {
         TwoTowns x = new TwoTowns();
         for (int what = 0; what < 12; what++) {
