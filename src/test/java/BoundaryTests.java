@@ -1394,7 +1394,7 @@ public final class BoundaryTests {
 
     @Sentence(promise = 9, says = "UNDO: ROUNDS and these, the last 16, one by one.")
     private static void undoTheLastSixteen() {
-        for (int done = 1; done <= 40; done++) {
+        for (int done = 1; done <= 34; done++) {
             TwoTowns x = plain(4, 4);
             List<String> before = new ArrayList<>();
             for (int i = 0; i < done; i++) {
