@@ -59,6 +59,9 @@ public final class LanguageTests {
             check(!Modifier.isPublic(m.getModifiers()) || !Modifier.isStatic(m.getModifiers()), "static: " + m);
         }
         check(shown.equals(new TreeSet<>(FACE)), "the face is " + shown);
+        for (Method m : TwoTowns.class.getDeclaredMethods()) {
+            check(Modifier.isPublic(m.getModifiers()) || !names.contains(m.getName()), "bears a name of the face: " + m);
+        }
         Constructor<?>[] made = TwoTowns.class.getDeclaredConstructors();
         check(made.length == 1 && Modifier.isPublic(made[0].getModifiers()) && made[0].getParameterCount() == 0,
                 "one public constructor");
